@@ -36,6 +36,7 @@ public final class PromisesTest {
         corrected();
         play();
         playWithBatch();
+        playWithSecondBatch();
         wrongSets();
         System.out.println(wrong == 0 ? "all promises hold" : wrong + " answers are wrong");
         if (wrong != 0) {
@@ -823,6 +824,45 @@ public final class PromisesTest {
         due("an empty set brings nothing that waits", y.play(3, 1000), 0);
         y.retain(0, 4);
         due("the bound goes to the set without a batch", y.play(3, 1000), 2);
+    }
+
+    /** Only the count of play shows whether what waited in a batch before still waits. */
+    private static void playWithSecondBatch() {
+        promise = "21 play, with a second batch";
+        due("tellings", playAfterBatch(true, false, 0), 1);
+        due("corrections", playAfterBatch(false, true, 0), 1);
+        due("bound", playAfterBatch(false, false, 1), 1);
+        due("nothing", playAfterBatch(false, false, 0), 0);
+        DeviceSets x = withDevices(1);
+        tellUnlike(x, 0, 0, 0);
+        x.set(0);
+        x.set(0);
+        x.set(0);
+        x.settle(1, 0, 0, 0);
+        x.batch(0);
+        x.join(0, 1);
+        x.endBatch(0);
+        x.batch(0);
+        x.join(0, 2);
+        due("the choice waits anew, and comes to set 2", x.play(6, 1000), 2);
+    }
+
+    private static int playAfterBatch(boolean told, boolean corrected, long bound) {
+        DeviceSets x = withDevices(1);
+        if (told) {
+            x.tell(0, 0, 0, 0, 0, 0);
+        }
+        x.set(0);
+        x.set(0);
+        if (corrected) {
+            x.correct(1, 0, 0, 0, 0, 0);
+        }
+        x.retain(1, bound);
+        x.batch(0);
+        x.join(0, 1);
+        x.endBatch(0);
+        x.batch(0);
+        return x.play(6, 1000);
     }
 
     private static void wrongSets() {

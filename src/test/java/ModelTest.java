@@ -19,6 +19,7 @@ import java.util.stream.Stream;
 public final class ModelTest {
     private static final int RUNS = 3000;
     private static final int CALLS = 512;
+    private static final int[] FAR_OFF = {Integer.MIN_VALUE, Integer.MAX_VALUE, 1 << 16, -64, 64};
 
     public static void main(String[] args) {
         for (int seed = 0; seed < RUNS; seed++) {
@@ -387,7 +388,9 @@ public final class ModelTest {
         }
 
         private int at(int bound) {
-            return random.nextInt(60) == 0 ? random.nextInt(12) - 4 : random.nextInt(bound);
+            int rare = random.nextInt(120);
+            return rare == 0 ? FAR_OFF[random.nextInt(FAR_OFF.length)] : rare < 3 ? random.nextInt(12) - 4
+                : random.nextInt(bound);
         }
 
         private int someSet() {

@@ -1,13 +1,6 @@
 /** Each promise of the document: ordinary inputs, the edges it names, and wrong inputs. */
-public final class PromisesTest {
-    private static final int NONE = DeviceSets.NONE;
-    private static final long NOTHING = Long.MIN_VALUE;
+public final class PromisesTest extends Answers {
     private static final int[] NO_SUCH = {-1, 6, 60, Integer.MIN_VALUE, Integer.MAX_VALUE};
-    private static final long[] NO_NUMBERS = {-1, 1000001, Long.MIN_VALUE, Long.MAX_VALUE, 1L << 32};
-    private static final long[] NO_VALUES = {-1000000001L, 1000000001L, Long.MIN_VALUE, Long.MAX_VALUE, 1L << 32};
-
-    private static int wrong = 0;
-    private static String promise = "";
 
     public static void main(String[] args) {
         newObject();
@@ -36,35 +29,12 @@ public final class PromisesTest {
         corrected();
         play();
         playWithBatch();
-        playWithSecondBatch();
         wrongSets();
-        System.out.println(wrong == 0 ? "all promises hold" : wrong + " answers are wrong");
-        if (wrong != 0) {
-            System.exit(1);
-        }
-    }
-
-    private static void due(String what, long got, long want) {
-        if (got != want) {
-            wrong++;
-            System.out.println(promise + ": " + what + " answered " + got + ", due is " + want);
-        }
-    }
-
-    private static void due(String what, boolean got, boolean want) {
-        due(what, got ? 1 : 0, want ? 1 : 0);
-    }
-
-    private static DeviceSets withDevices(int count) {
-        DeviceSets x = new DeviceSets();
-        for (int i = 0; i < count; i++) {
-            x.device();
-        }
-        return x;
+        end("all promises hold");
     }
 
     private static void newObject() {
-        promise = "1 new object";
+        about("1 new object");
         due("NONE", DeviceSets.NONE, -1);
         DeviceSets x = new DeviceSets();
         due("life", x.life(0), NONE);
@@ -81,7 +51,7 @@ public final class PromisesTest {
     }
 
     private static void device() {
-        promise = "2 device";
+        about("2 device");
         DeviceSets x = new DeviceSets();
         for (int i = 0; i < 4; i++) {
             due("not yet there", x.life(i), NONE);
@@ -94,7 +64,7 @@ public final class PromisesTest {
     }
 
     private static void tell() {
-        promise = "3 tell";
+        about("3 tell");
         DeviceSets x = withDevices(1);
         due("least", x.tell(0, 0, 0, 0, -1000000000L, 0), 1);
         due("greatest", x.tell(0, 1000000, 3, 1000000, 1000000000L, 1000000), 1);
@@ -130,7 +100,7 @@ public final class PromisesTest {
     }
 
     private static void tellLimit() {
-        promise = "3 tell, limit";
+        about("3 tell, limit");
         DeviceSets x = withDevices(2);
         for (int i = 0; i < 60; i++) {
             due("telling " + i, x.tell(i % 2, i, 0, i, i, 0), 1);
@@ -145,7 +115,7 @@ public final class PromisesTest {
     }
 
     private static void reset() {
-        promise = "4 reset";
+        about("4 reset");
         DeviceSets x = withDevices(2);
         due("no device", x.reset(2, 0), false);
         due("no device", x.reset(-1, 0), false);
@@ -168,7 +138,7 @@ public final class PromisesTest {
     }
 
     private static void life() {
-        promise = "5 life";
+        about("5 life");
         DeviceSets x = withDevices(2);
         due("at first", x.life(1), 0);
         x.reset(1, 9);
@@ -180,7 +150,7 @@ public final class PromisesTest {
     }
 
     private static void set() {
-        promise = "6 set";
+        about("6 set");
         DeviceSets x = withDevices(2);
         due("no device", x.set(2), NONE);
         due("no device", x.set(-1), NONE);
@@ -204,7 +174,7 @@ public final class PromisesTest {
     }
 
     private static void join() {
-        promise = "7 join";
+        about("7 join");
         DeviceSets x = withDevices(2);
         x.tell(0, 0, 0, 1, 10, 0);
         x.tell(0, 1, 1, 1, 11, 0);
@@ -235,7 +205,7 @@ public final class PromisesTest {
     }
 
     private static void correct() {
-        promise = "8 correct";
+        about("8 correct");
         DeviceSets x = withDevices(1);
         x.tell(0, 0, 0, 5, 5, 0);
         x.set(0);
@@ -268,7 +238,7 @@ public final class PromisesTest {
     }
 
     private static void correctLimit() {
-        promise = "8 correct, limit";
+        about("8 correct, limit");
         DeviceSets x = withDevices(1);
         x.tell(0, 0, 0, 5, 5, 0);
         x.set(0);
@@ -287,7 +257,7 @@ public final class PromisesTest {
     }
 
     private static void last() {
-        promise = "9 last";
+        about("9 last");
         DeviceSets x = withDevices(2);
         x.tell(0, 9, 0, 1, 90, 0);
         x.tell(0, 8, 0, 99, 80, 50);
@@ -320,7 +290,7 @@ public final class PromisesTest {
     }
 
     private static void known() {
-        promise = "10 known";
+        about("10 known");
         DeviceSets x = withDevices(2);
         x.tell(0, 5, 0, 10, 1, 4);
         x.tell(0, 4, 0, 20, 2, 6);
@@ -356,7 +326,7 @@ public final class PromisesTest {
     }
 
     private static void knownCorrections() {
-        promise = "10 known, corrections";
+        about("10 known, corrections");
         DeviceSets x = withDevices(2);
         x.tell(0, 0, 0, 10, 1, 2);
         x.set(0);
@@ -379,7 +349,7 @@ public final class PromisesTest {
     }
 
     private static void gap() {
-        promise = "11 gap";
+        about("11 gap");
         DeviceSets x = withDevices(2);
         x.set(1);
         due("no tellings", x.gap(0, 0, 0), NONE);
@@ -416,7 +386,7 @@ public final class PromisesTest {
     }
 
     private static void conflict() {
-        promise = "12 conflict";
+        about("12 conflict");
         DeviceSets x = withDevices(2);
         int[][] keys = {{1, 0, 2, 1}, {0, 1, 1, 0}, {0, 0, 9, 3}, {0, 0, 9, 2}, {0, 0, 3, 3}};
         tellUnlike(x, 1, 2, 1);
@@ -449,13 +419,8 @@ public final class PromisesTest {
         due("settled", x.conflict(0, 0, 3), 2);
     }
 
-    private static void tellUnlike(DeviceSets x, int device, int number, int kind) {
-        x.tell(device, number, kind, 10, 5, 0);
-        x.tell(device, number, kind, 20, 5, 0);
-    }
-
     private static void settle() {
-        promise = "13 settle";
+        about("13 settle");
         DeviceSets x = withDevices(2);
         x.tell(0, 7, 0, 30, -1, 0);
         x.tell(0, 7, 0, 20, 6, 0);
@@ -492,7 +457,7 @@ public final class PromisesTest {
     }
 
     private static void seenOfChosen() {
-        promise = "13 settle, the one that holds";
+        about("13 settle, the one that holds");
         DeviceSets x = withDevices(1);
         x.tell(0, 0, 0, 30, 1, 0);
         x.tell(0, 0, 0, 20, 8, 0);
@@ -522,7 +487,7 @@ public final class PromisesTest {
     }
 
     private static void equal() {
-        promise = "14 equal";
+        about("14 equal");
         DeviceSets x = withDevices(2);
         tellUnlike(x, 0, 0, 0);
         x.set(0);
@@ -562,7 +527,7 @@ public final class PromisesTest {
     }
 
     private static void batch() {
-        promise = "15 batch";
+        about("15 batch");
         DeviceSets x = withDevices(1);
         x.set(0);
         x.set(0);
@@ -578,7 +543,7 @@ public final class PromisesTest {
     }
 
     private static void endBatch() {
-        promise = "16 endBatch";
+        about("16 endBatch");
         DeviceSets x = withDevices(1);
         x.set(0);
         tellUnlike(x, 0, 0, 0);
@@ -620,7 +585,7 @@ public final class PromisesTest {
     }
 
     private static void retain() {
-        promise = "17 retain";
+        about("17 retain");
         DeviceSets x = withDevices(1);
         x.tell(0, 0, 0, 10, 1, 0);
         x.tell(0, 0, 0, 10, 2, 0);
@@ -644,7 +609,7 @@ public final class PromisesTest {
     }
 
     private static void kept() {
-        promise = "18 kept";
+        about("18 kept");
         DeviceSets x = withDevices(2);
         x.tell(0, 0, 0, 10, 1000000000L, 0);
         x.tell(0, 0, 0, 11, 1000000000L, 0);
@@ -670,7 +635,7 @@ public final class PromisesTest {
     }
 
     private static void mark() {
-        promise = "19 mark";
+        about("19 mark");
         DeviceSets x = withDevices(2);
         for (int d : new int[] {-1, 2, 4, Integer.MAX_VALUE}) {
             due("device " + d, x.mark(d, 1, 1), false);
@@ -702,7 +667,7 @@ public final class PromisesTest {
     }
 
     private static void corrected() {
-        promise = "20 corrected";
+        about("20 corrected");
         DeviceSets x = withDevices(3);
         for (long s : new long[] {0, 7, 1000000}) {
             dueFraction(x, 0, s, s, 1);
@@ -747,13 +712,8 @@ public final class PromisesTest {
         }
     }
 
-    private static void dueFraction(DeviceSets x, int device, long second, long over, long under) {
-        due("numerator for " + second, x.corrected(device, second, 0), over);
-        due("denominator for " + second, x.corrected(device, second, 1), under);
-    }
-
     private static void play() {
-        promise = "21 play";
+        about("21 play");
         DeviceSets x = withDevices(4);
         for (int d = 0; d < 4; d++) {
             x.tell(d, d, 0, d, d, 0);
@@ -802,7 +762,7 @@ public final class PromisesTest {
     }
 
     private static void playWithBatch() {
-        promise = "21 play, with a batch";
+        about("21 play, with a batch");
         DeviceSets x = withDevices(1);
         tellUnlike(x, 0, 0, 0);
         x.set(0);
@@ -826,47 +786,8 @@ public final class PromisesTest {
         due("the bound goes to the set without a batch", y.play(3, 1000), 2);
     }
 
-    /** Only the count of play shows whether what waited in a batch before still waits. */
-    private static void playWithSecondBatch() {
-        promise = "21 play, with a second batch";
-        due("tellings", playAfterBatch(true, false, 0), 1);
-        due("corrections", playAfterBatch(false, true, 0), 1);
-        due("bound", playAfterBatch(false, false, 1), 1);
-        due("nothing", playAfterBatch(false, false, 0), 0);
-        DeviceSets x = withDevices(1);
-        tellUnlike(x, 0, 0, 0);
-        x.set(0);
-        x.set(0);
-        x.set(0);
-        x.settle(1, 0, 0, 0);
-        x.batch(0);
-        x.join(0, 1);
-        x.endBatch(0);
-        x.batch(0);
-        x.join(0, 2);
-        due("the choice waits anew, and comes to set 2", x.play(6, 1000), 2);
-    }
-
-    private static int playAfterBatch(boolean told, boolean corrected, long bound) {
-        DeviceSets x = withDevices(1);
-        if (told) {
-            x.tell(0, 0, 0, 0, 0, 0);
-        }
-        x.set(0);
-        x.set(0);
-        if (corrected) {
-            x.correct(1, 0, 0, 0, 0, 0);
-        }
-        x.retain(1, bound);
-        x.batch(0);
-        x.join(0, 1);
-        x.endBatch(0);
-        x.batch(0);
-        return x.play(6, 1000);
-    }
-
     private static void wrongSets() {
-        promise = "a set that is not there";
+        about("a set that is not there");
         DeviceSets x = withDevices(1);
         tellUnlike(x, 0, 0, 0);
         x.tell(0, 5, 0, 0, 0, 0);

@@ -1,3 +1,5 @@
+import java.util.List;
+
 /** Prints and counts the answers that are not the ones that are due. The tests are made from it. */
 abstract class Answers {
     static final int NONE = DeviceSets.NONE;
@@ -35,6 +37,14 @@ abstract class Answers {
         DeviceSets x = new DeviceSets();
         for (int i = 0; i < count; i++) {
             x.device();
+        }
+        return x;
+    }
+
+    static DeviceSets made(List<Call> calls) {
+        DeviceSets x = new DeviceSets();
+        for (Call call : calls) {
+            call.on().applyAsLong(x);
         }
         return x;
     }

@@ -35,14 +35,6 @@ public final class RefusalTest extends Answers {
         }
     }
 
-    private static DeviceSets made(List<Call> calls) {
-        DeviceSets x = new DeviceSets();
-        for (Call call : calls) {
-            call.on().applyAsLong(x);
-        }
-        return x;
-    }
-
     /**
      * Three devices, the last in its 100th life, and four sets; batch 0 has ended, 1 is open for set 1
      * and what is in set 2 waits there. Set 3 has the same tellings as set 1.

@@ -4,6 +4,7 @@ import java.util.HashSet;
 import java.util.List;
 import java.util.Random;
 import java.util.Set;
+import java.util.TreeSet;
 
 /** The document's first line, clause by clause, as laws that must hold in objects made at random. */
 public final class FirstLineTest extends Answers {
@@ -18,6 +19,7 @@ public final class FirstLineTest extends Answers {
             toldAsConflictsAndSettled(new Random(seed));
             correctionsByWhenTold(new Random(seed));
             livesNeverMix(new Random(seed));
+            gaps(new Random(seed));
             batchesWholeOrNot(new Random(seed));
             sumsKept(new Random(seed));
             correctedBetweenMarks(new Random(seed));
@@ -187,6 +189,29 @@ public final class FirstLineTest extends Answers {
         due("last, of a life with fewer numbers", x.last(s, 0, 0), 46);
         due("gap(.., 0), of a life with fewer numbers", x.gap(s, 0, 0), 5);
         due("gap(.., 1), of a life with fewer numbers", x.gap(s, 0, 1), NONE);
+    }
+
+    /** Numbers come in any order, and of any kind; retiring some of them opens no gap. */
+    private static void gaps(Random random) {
+        about("gaps");
+        DeviceSets x = withDevices(1);
+        TreeSet<Integer> told = new TreeSet<>();
+        x.set(0);
+        for (int i = 0; i < 20; i++) {
+            int number = 7 + random.nextInt(40);
+            told.add(number);
+            x.tell(0, number, random.nextInt(4), random.nextInt(8), 0, 0);
+        }
+        x.join(0, x.set(0));
+        x.retain(0, random.nextInt(9));
+        int k = 0;
+        for (int number = told.first(); number < told.last(); number++) {
+            if (!told.contains(number)) {
+                due("gap(0, 0, " + k + ")", x.gap(0, 0, k), number);
+                k++;
+            }
+        }
+        due("the gap behind the last one", x.gap(0, 0, k), NONE);
     }
 
     private static void batchesWholeOrNot(Random random) {
